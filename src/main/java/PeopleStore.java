@@ -308,10 +308,9 @@ public final class PeopleStore {
 
         void clear() {
             used = 0;
-            split();
         }
 
-        /** Makes the tokens of the text, with the mark at the first. */
+        /** Makes the tokens of the text, with the mark at the first; all that read them begin so. */
         void split() {
             current = 0;
             int at = skipSpaces(0);

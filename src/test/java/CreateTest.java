@@ -100,7 +100,8 @@ public final class CreateTest {
         CHECKS.creates("{\"name\":\"aB\"}", PeopleStore.UNIQUE);
         CHECKS.creates("{\"name\":\"B\"}", PeopleStore.UNIQUE);
         CHECKS.creates("{\"name\":\"A\"}", 3);
-        CHECKS.creates("{\"name\":\"abc\"}", 4);
+        CHECKS.creates("{\"name\":\"abz\"}", 4);
+        CHECKS.creates("{\"name\":\"aBZ\"}", PeopleStore.UNIQUE);
         // Only letters have small ones: [ and { lie as far apart.
         CHECKS.creates("{\"name\":\"[\"}", 5);
         CHECKS.creates("{\"name\":\"{\"}", 6);

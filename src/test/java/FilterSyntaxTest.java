@@ -155,6 +155,11 @@ public final class FilterSyntaxTest {
         wrong("\n");
         wrong("name pr\nor name pr");
         wrong("name pr;");
+        wrong("name pr ar name pr");
+        wrong("name pr ond name pr");
+        wrong("bot(name pr)");
+        wrong("on eq drue");
+        wrong("name eq #");
         query("name pr or name pr or name pr or name pr or name pr or name pr or name pr or name pr or name pr", 1);
         query("mail[p pr or p pr or p pr or p pr or p pr or p pr or p pr or p pr or p pr or p pr]", 0);
     }

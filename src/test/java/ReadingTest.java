@@ -74,6 +74,9 @@ public final class ReadingTest {
 
     private static void letters() {
         CHECKS.anew("{\"name\":\"a\"}", "{\"name\":\"b\"}");
+        CHECKS.due("a letter of 1", CHECKS.store().letter(1, 6), (int) '1');
+        CHECKS.due("a letter of 2", CHECKS.store().letter(2, 6), (int) '2');
+        CHECKS.due("a letter of 1 again", CHECKS.store().letter(1, 6), (int) '1');
         int length = CHECKS.store().length(2);
         CHECKS.due("the first", CHECKS.store().letter(2, 0), (int) '{');
         CHECKS.due("the last", CHECKS.store().letter(2, length - 1), (int) '}');

@@ -45,6 +45,8 @@ public final class TokensTest {
         wrong("{\"name\":\"a\",\"on\":t rue}");
         wrong("{\"name\":\"a\",\"on\":null}");
         wrong("{name:\"a\"}");
+        wrong("{\"name\":\"a\",\"on\":drue}");
+        wrong("{\"name\":\"a\",\"on\":talse}");
     }
 
     private static void numbers() {
@@ -86,6 +88,10 @@ public final class TokensTest {
             wrong("{\"name\":\"a\"}" + each);
             wrong(each + "{\"name\":\"a\"}");
             wrong("{\"name\":" + each + "\"a\"}");
+        }
+        for (String each : "! # $ % & ' * / ; < > ? @ \\ ^ _ ` | ~ a \" + - = . , : ( ) [ ] { }".split(" ")) {
+            wrong("{\"id\":" + each + ",\"name\":\"a\"}");
+            wrong("{" + each + ":1,\"name\":\"a\"}");
         }
     }
 
