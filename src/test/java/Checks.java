@@ -7,12 +7,23 @@ final class Checks {
 
     private final String test;
     private PeopleStore store = new PeopleStore();
+    private String sentence = "";
     private int calls;
     private int asked;
     private int wrong;
 
     Checks(String test) {
         this.test = test;
+    }
+
+    /** What follows is for these words of the document; they are told with an answer not as due. */
+    void about(String words) {
+        sentence = " [" + words + "]";
+    }
+
+    /** The text with ' for ", which is easier to read in Java. */
+    static String quoted(String text) {
+        return text.replace('\'', '"');
     }
 
     /** Goes on with a new store that has a resource of each of these texts. */
@@ -36,7 +47,7 @@ final class Checks {
         asked++;
         if (!got.equals(want)) {
             wrong++;
-            System.out.println(test + ": " + what + " answered " + got + ", due is " + want);
+            System.out.println(test + ": " + what + " answered " + got + ", due is " + want + sentence);
         }
     }
 
@@ -119,6 +130,23 @@ final class Checks {
     void is(int id, int version, String rest) {
         String want = "{\"id\":" + id + ",\"version\":" + version + "," + rest + "}";
         due("the resource " + id, written(id), want);
+    }
+
+    /** The page is as said, and these resources, written with ' for ", are all that there are. */
+    void stands(String page, String... people) {
+        due("the page", page(), page);
+        due("resources", store().resources(), people.length);
+        for (String each : people) {
+            int id = Integer.parseInt(each.substring("{'id':".length(), each.indexOf(',')));
+            due("the resource " + id, written(id), quoted(each));
+        }
+    }
+
+    /** All the room is free; this uses the buffer, but the page stays. */
+    void bufferIsEmpty() {
+        say(" ".repeat(120));
+        due("a put behind 120", store().put(' ', 1), false);
+        due("query of 120 spaces by no sort", store().query(9, false, 1, 9), PeopleStore.UNFIT);
     }
 
     void end() {
