@@ -376,7 +376,7 @@ public final class PeopleStore {
             int quote = kinds[current] == STRING ? 1 : 0;
             int end = ends[current] - quote;
             for (int i = starts[current] + quote; i < end; i++) {
-                if (letters[i] == '\\') {
+                if (letters[i] == '\\' && i + 1 < end) {
                     i++;
                 }
                 spelled.append(letters[i]);

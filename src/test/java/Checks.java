@@ -43,6 +43,10 @@ final class Checks {
         return store;
     }
 
+    int calls() {
+        return calls;
+    }
+
     void due(String what, Object got, Object want) {
         asked++;
         if (!got.equals(want)) {

@@ -109,21 +109,23 @@ public final class EdgesOfFilterTest {
         query("(id pr or id pr and id pr)", 1);
         query("mail[v pr]", 1);
         query("mail[v pr or p pr and v pr]", 1);
-        for (String each : new String[] {"()", "mail[]", "(id pr", "mail[v pr", "(id pr]", "mail[v pr)", "mail(v pr)",
-                "[id pr]", "(id pr))", "mail[v pr]]", "name[v pr]", "id[v pr]", "v[v pr]", "mail.v[v pr]",
-                "mail[v pr].v pr", "mail[v pr] pr", "mail[v pr] eq 'x'", "(name) pr", "(id pr) pr", "()id pr"}) {
+        for (String each : new String[] {"()", "mail[]", "(id pr", "mail[v pr", "(id pr]", "mail[v pr)",
+                "mail(v pr)", "[id pr]", "(id pr))", "mail[v pr]]", "name[v pr]", "id[v pr]", "v[v pr]",
+                "mail.v[v pr]", "mail[v pr].v pr", "mail[v pr] pr", "mail[v pr] eq 'x'", "(name) pr",
+                "(id pr) pr", "()id pr"}) {
             wrong(each);
         }
     }
 
     private static void pathsOutside() {
         CHECKS.about("PATH: an attribute's name; or mail, . , v or p");
-        for (String path : new String[] {"id", "version", "name", "age", "on", "mail", "mail.v", "mail.p", "mail . v"}) {
+        for (String path : new String[] {"id", "version", "name", "age", "on", "mail", "mail.v", "mail.p",
+                "mail . v"}) {
             query(path + " pr", 1);
         }
-        for (String path : new String[] {"v", "p", "zz", "nam", "mails", "'name'", "5", "true", "mail.", "mail.id",
-                "mail.name", "mail.mail", "mail.vp", "mail.v.p", "mail..v", "name.v", "id.p", ".v", "mail,v", "mail:v",
-                "mail v", "mail.'v'", "not", "pr", "eq"}) {
+        for (String path : new String[] {"v", "p", "zz", "nam", "mails", "'name'", "5", "true", "mail.",
+                "mail.id", "mail.name", "mail.mail", "mail.vp", "mail.v.p", "mail..v", "name.v", "id.p", ".v",
+                "mail,v", "mail:v", "mail v", "mail.'v'", "not", "pr", "eq"}) {
             wrong(path + " pr");
         }
     }
@@ -134,7 +136,8 @@ public final class EdgesOfFilterTest {
         query("mail[p pr]", 1);
         query("mail[(v pr)]", 1);
         query("mail[not(p eq false)]", 1);
-        for (String path : new String[] {"id", "version", "name", "age", "on", "mail", "mail.v", "mail.p", "v.v", ".v"}) {
+        for (String path : new String[] {"id", "version", "name", "age", "on", "mail", "mail.v", "mail.p",
+                "v.v", ".v"}) {
             wrong("mail[" + path + " pr]");
             wrong("mail[v pr and " + path + " pr]");
             wrong("mail[(" + path + " pr)]");
@@ -170,7 +173,8 @@ public final class EdgesOfFilterTest {
             wrong(each + " 'a'");
             wrong("'a' " + each + " name");
         }
-        for (String each : new String[] {"e", "eqq", "is", "in", "gte", "l", "=", "'eq'", "not eq", "e q", "==", "", "and"}) {
+        for (String each : new String[] {"e", "eqq", "is", "in", "gte", "l", "=", "'eq'", "not eq", "e q", "==",
+                "", "and"}) {
             wrong("name " + each + " 'a'");
         }
     }
@@ -191,8 +195,8 @@ public final class EdgesOfFilterTest {
     }
 
     private static void kinds() {
-        CHECKS.about("A value must be of the kind of its path; co, sw, ew stand with strings, gt, ge, lt, le with "
-            + "numbers and strings alone; else SYNTAX");
+        CHECKS.about("A value must be of the kind of its path; co, sw, ew stand with strings, "
+            + "gt, ge, lt, le with numbers and strings alone; else SYNTAX");
         String[] values = {"7", "true", "'q'"};
         String[] paths = {"id", "version", "age", "on", "name", "mail", "mail.v", "mail.p", "mail[v", "mail[p"};
         for (String path : paths) {
@@ -212,7 +216,8 @@ public final class EdgesOfFilterTest {
     private static void structuredValues() {
         CHECKS.about("a value that is no object or array");
         for (String path : new String[] {"id", "name", "on", "mail", "mail.v", "mail.p"}) {
-            for (String value : new String[] {"{}", "[]", "['x']", "[5]", "{'v':'x'}", "[{'v':'x','p':true}]"}) {
+            for (String value : new String[] {"{}", "[]", "['x']", "[5]", "{'v':'x'}",
+                    "[{'v':'x','p':true}]"}) {
                 wrong(path + " eq " + value);
                 wrong(path + " ne " + value);
             }
@@ -290,7 +295,8 @@ public final class EdgesOfFilterTest {
         finds("on eq true or on eq false or mail.p eq true or mail.p eq false", "");
         finds("mail co '' or mail sw '' or mail ew '' or mail.v co ''", "");
         finds("mail[v pr or not(v pr)]", "");
-        finds("age ne 0 and on ne true and on ne false and mail ne '' and mail.p ne true and mail.p ne false", "1");
+        finds("age ne 0 and on ne true and on ne false and mail ne '' and mail.p ne true and mail.p ne false",
+            "1");
     }
 
     private static void oneOfMany() {

@@ -6,7 +6,8 @@ public final class EdgesOfMailTest {
     private static final String[] SIGNS = {"+", "="};
     /** Values that are no item's object. */
     private static final String[] NO_ITEMS = {"5", "true", "'q'", "[]", "[{'v':'q'}]", "{'v':''}",
-        "{'v':'" + TWELVE + "m'}", "{'v':5}", "{'p':0}", "{'zz':1}", "{'v':'q','id':1}", "{'v':'q','p':'true'}"};
+        "{'v':'" + TWELVE + "m'}", "{'v':5}", "{'p':0}", "{'zz':1}", "{'v':'q','id':1}",
+        "{'v':'q','p':'true'}"};
 
     public static void main(String[] args) {
         allAway();
@@ -111,9 +112,9 @@ public final class EdgesOfMailTest {
     private static void unfitMail() {
         CHECKS.about("+ has a whole item's object, or an array of such; UNFIT if the value is none of these");
         for (String sign : SIGNS) {
-            for (String value : new String[] {"5", "true", "'q'", "{}", "{'p':true}", "{'v':''}", "{'v':'" + TWELVE + "m'}",
-                    "{'v':5}", "{'v':'q','p':1}", "{'v':'q','zz':1}", "{'v':'q','id':1}", "['q']", "[{}]", "[[]]",
-                    "[[{'v':'q'}]]"}) {
+            for (String value : new String[] {"5", "true", "'q'", "{}", "{'p':true}", "{'v':''}",
+                    "{'v':'" + TWELVE + "m'}", "{'v':5}", "{'v':'q','p':1}", "{'v':'q','zz':1}",
+                    "{'v':'q','id':1}", "['q']", "[{}]", "[[]]", "[[{'v':'q'}]]"}) {
                 refused(THREE, sign + "mail:" + value, PeopleStore.UNFIT);
                 refused("", sign + "mail:" + value, PeopleStore.UNFIT);
             }
@@ -192,7 +193,8 @@ public final class EdgesOfMailTest {
                 for (String value : new String[] {"5", "true", "''", "{}", "[]", "{'v':'q'}", "['q']"}) {
                     refused("{'v':'x'}", sign + path + ".v:" + value, PeopleStore.UNFIT);
                 }
-                for (String value : new String[] {"0", "1", "'true'", "''", "{}", "[]", "{'p':true}", "[true]"}) {
+                for (String value : new String[] {"0", "1", "'true'", "''", "{}", "[]", "{'p':true}",
+                        "[true]"}) {
                     refused("{'v':'x'}", sign + path + ".p:" + value, PeopleStore.UNFIT);
                 }
             }
@@ -238,10 +240,12 @@ public final class EdgesOfMailTest {
         for (String sign : SIGNS) {
             makes(THREE, sign + "mail.p:false", "{'v':'x','p':false},{'v':'y','p':false},{'v':'z','p':false}");
             makes(THREE, sign + "mail[v eq 'y'].p:false", "{'v':'x'},{'v':'y','p':false},{'v':'z','p':false}");
-            makes(THREE, sign + "mail[v le 'y'].p:false", "{'v':'x','p':false},{'v':'y','p':false},{'v':'z','p':false}");
+            makes(THREE, sign + "mail[v le 'y'].p:false",
+                "{'v':'x','p':false},{'v':'y','p':false},{'v':'z','p':false}");
             makes(THREE, sign + "mail[v eq 'z'].v:'q'", "{'v':'x'},{'v':'y','p':true},{'v':'q','p':false}");
             // Which match is seen before one changes.
-            makes(THREE, sign + "mail[p ne false].p:false", "{'v':'x','p':false},{'v':'y','p':false},{'v':'z','p':false}");
+            makes(THREE, sign + "mail[p ne false].p:false",
+                "{'v':'x','p':false},{'v':'y','p':false},{'v':'z','p':false}");
         }
     }
 
@@ -273,7 +277,8 @@ public final class EdgesOfMailTest {
         makes(THREE, "=mail[v eq 'x']:{'v':'q'}", "{'v':'q'},{'v':'y','p':true},{'v':'z','p':false}");
         makes(THREE, "=mail[v eq 'y']:{'v':'q'}", "{'v':'x'},{'v':'q'},{'v':'z','p':false}");
         makes(THREE, "=mail[v eq 'z']:{'v':'z'}", "{'v':'x'},{'v':'y','p':true},{'v':'z'}");
-        makes(THREE, "=mail[v eq 'x']:{'p':false,'v':'x'}", "{'v':'x','p':false},{'v':'y','p':true},{'v':'z','p':false}");
+        makes(THREE, "=mail[v eq 'x']:{'p':false,'v':'x'}",
+            "{'v':'x','p':false},{'v':'y','p':true},{'v':'z','p':false}");
         refused(THREE, "=mail[v eq 'x']:{}", PeopleStore.UNFIT);
         refused(THREE, "=mail[v eq 'x']:{'p':true}", PeopleStore.UNFIT);
     }
@@ -313,9 +318,12 @@ public final class EdgesOfMailTest {
         for (String sign : SIGNS) {
             makes(items(1), sign + "mail.p:true", "{'v':'a','p':true}");
             makes(items(2), sign + "mail.p:true", "{'v':'a','p':true},{'v':'b','p':false}");
-            makes(items(4), sign + "mail.p:true", "{'v':'a','p':true},{'v':'b','p':false},{'v':'c','p':false},{'v':'d','p':false}");
-            makes(items(4), sign + "mail[v gt 'b'].p:true", "{'v':'a'},{'v':'b'},{'v':'c','p':true},{'v':'d','p':false}");
-            makes(THREE, sign + "mail[v ne 'y'].p:true", "{'v':'x','p':true},{'v':'y','p':false},{'v':'z','p':false}");
+            makes(items(4), sign + "mail.p:true",
+                "{'v':'a','p':true},{'v':'b','p':false},{'v':'c','p':false},{'v':'d','p':false}");
+            makes(items(4), sign + "mail[v gt 'b'].p:true",
+                "{'v':'a'},{'v':'b'},{'v':'c','p':true},{'v':'d','p':false}");
+            makes(THREE, sign + "mail[v ne 'y'].p:true",
+                "{'v':'x','p':true},{'v':'y','p':false},{'v':'z','p':false}");
         }
         makes(items(3), "+mail[v ge 'b']:{'p':true}", "{'v':'a'},{'v':'b','p':true},{'v':'c','p':false}");
     }
@@ -334,7 +342,8 @@ public final class EdgesOfMailTest {
         makes("", "+mail:[{'v':'a','p':true},{'v':'a','p':false}]", "{'v':'a','p':false}");
         makes("", "+mail:[{'v':'a','p':false},{'v':'a','p':true}]", "{'v':'a','p':true}");
         makes("", "+mail:[{'v':'a','p':true},{'v':'a'}]", "{'v':'a','p':true}");
-        makes("", "=mail:[{'v':'a','p':true},{'v':'b','p':true},{'v':'a','p':false}]", "{'v':'a','p':false},{'v':'b','p':true}");
+        makes("", "=mail:[{'v':'a','p':true},{'v':'b','p':true},{'v':'a','p':false}]",
+            "{'v':'a','p':false},{'v':'b','p':true}");
         makes(THREE, "+mail:[{'v':'x','p':true},{'v':'x','p':false}]",
             "{'v':'x','p':false},{'v':'y','p':true},{'v':'z','p':false}");
         makes(THREE, "+mail:[{'v':'x','p':true},{'v':'z','p':true},{'v':'x','p':false}]",
@@ -344,21 +353,27 @@ public final class EdgesOfMailTest {
     private static void primaryOfAnArray() {
         CHECKS.about("(of an array with two, too)");
         makes("", "+mail:[{'v':'a','p':true},{'v':'b','p':true}]", "{'v':'a','p':true},{'v':'b','p':false}");
-        makes("", "=mail:[{'v':'a'},{'v':'b','p':true},{'v':'c','p':true}]", "{'v':'a'},{'v':'b','p':true},{'v':'c','p':false}");
+        makes("", "=mail:[{'v':'a'},{'v':'b','p':true},{'v':'c','p':true}]",
+            "{'v':'a'},{'v':'b','p':true},{'v':'c','p':false}");
         makes(THREE, "+mail:[{'v':'z','p':true},{'v':'x','p':true}]",
             "{'v':'x','p':true},{'v':'y','p':false},{'v':'z','p':false}");
-        makes("{'v':'x'}", "+mail:[{'v':'y','p':true},{'v':'x','p':true}]", "{'v':'x','p':true},{'v':'y','p':false}");
+        makes("{'v':'x'}", "+mail:[{'v':'y','p':true},{'v':'x','p':true}]",
+            "{'v':'x','p':true},{'v':'y','p':false}");
     }
 
     private static void othersBecomeFalse() {
         CHECKS.about("for all other items whose p is true it becomes false");
-        makes(THREE, "+mail:{'v':'q','p':true}", "{'v':'x'},{'v':'y','p':false},{'v':'z','p':false},{'v':'q','p':true}");
+        makes(THREE, "+mail:{'v':'q','p':true}",
+            "{'v':'x'},{'v':'y','p':false},{'v':'z','p':false},{'v':'q','p':true}");
         makes(THREE, "+mail:{'v':'x','p':true}", "{'v':'x','p':true},{'v':'y','p':false},{'v':'z','p':false}");
         makes(THREE, "=mail[v eq 'z'].p:true", "{'v':'x'},{'v':'y','p':false},{'v':'z','p':true}");
         makes(THREE, "=mail[v eq 'z']:{'v':'q','p':true}", "{'v':'x'},{'v':'y','p':false},{'v':'q','p':true}");
-        makes(THREE, "+mail[v eq 'x']:{'p':true}", "{'v':'x','p':true},{'v':'y','p':false},{'v':'z','p':false}");
-        makes(THREE, "+:{'mail':{'v':'x','p':true}}", "{'v':'x','p':true},{'v':'y','p':false},{'v':'z','p':false}");
-        makes(THREE, "=mail[v eq 'x'].p:true\n=mail[v eq 'z'].p:true", "{'v':'x','p':false},{'v':'y','p':false},{'v':'z','p':true}");
+        makes(THREE, "+mail[v eq 'x']:{'p':true}",
+            "{'v':'x','p':true},{'v':'y','p':false},{'v':'z','p':false}");
+        makes(THREE, "+:{'mail':{'v':'x','p':true}}",
+            "{'v':'x','p':true},{'v':'y','p':false},{'v':'z','p':false}");
+        makes(THREE, "=mail[v eq 'x'].p:true\n=mail[v eq 'z'].p:true",
+            "{'v':'x','p':false},{'v':'y','p':false},{'v':'z','p':true}");
     }
 
     private static void withoutPrimaryNoneChanges() {
@@ -367,7 +382,8 @@ public final class EdgesOfMailTest {
         makes(THREE, "+mail:{'v':'q','p':false}", THREE + ",{'v':'q','p':false}");
         makes(THREE, "-mail[v eq 'z'].p", "{'v':'x'},{'v':'y','p':true},{'v':'z'}");
         makes(THREE, "=mail[v eq 'y'].v:'q'", "{'v':'x'},{'v':'q','p':true},{'v':'z','p':false}");
-        makes(THREE, "=mail[v eq 'x'].p:true\n=mail[v eq 'x'].p:false\n=mail[v eq 'y'].p:true", "{'v':'x','p':false},{'v':'y','p':true},{'v':'z','p':false}");
+        makes(THREE, "=mail[v eq 'x'].p:true\n=mail[v eq 'x'].p:false\n=mail[v eq 'y'].p:true",
+            "{'v':'x','p':false},{'v':'y','p':true},{'v':'z','p':false}");
     }
 
     private static void twoOfOneV() {
@@ -391,14 +407,18 @@ public final class EdgesOfMailTest {
         refused(THREE, "=mail[v eq 'x'].v:'y'\n-mail", PeopleStore.UNFIT);
         refused(THREE, "=mail.v:'q'\n=mail:{'v':'q'}", PeopleStore.UNFIT);
         makes(THREE, "-mail[v eq 'y']\n=mail[v eq 'x'].v:'y'", "{'v':'y'},{'v':'z','p':false}");
-        makes(items(2), "=mail[v eq 'a'].v:'c'\n=mail[v eq 'b'].v:'a'\n=mail[v eq 'c'].v:'b'", "{'v':'b'},{'v':'a'}");
+        makes(items(2), "=mail[v eq 'a'].v:'c'\n=mail[v eq 'b'].v:'a'\n=mail[v eq 'c'].v:'b'",
+            "{'v':'b'},{'v':'a'}");
     }
 
     private static void twoOfOneVForEachMember() {
         CHECKS.about("(With nothing as the target, this is looked at for each member.)");
-        makes(THREE, "+:{'mail':{'v':'z','p':true},'age':5,'id':1}\n-age", "{'v':'x'},{'v':'y','p':false},{'v':'z','p':true}");
-        makes("", "+:{'mail':[{'v':'a','p':true},{'v':'b','p':true}]}", "{'v':'a','p':true},{'v':'b','p':false}");
-        makes("", "=:{'mail':[{'v':'a','p':true},{'v':'b','p':true},{'v':'a','p':false}]}", "{'v':'a','p':false},{'v':'b','p':true}");
+        makes(THREE, "+:{'mail':{'v':'z','p':true},'age':5,'id':1}\n-age",
+            "{'v':'x'},{'v':'y','p':false},{'v':'z','p':true}");
+        makes("", "+:{'mail':[{'v':'a','p':true},{'v':'b','p':true}]}",
+            "{'v':'a','p':true},{'v':'b','p':false}");
+        makes("", "=:{'mail':[{'v':'a','p':true},{'v':'b','p':true},{'v':'a','p':false}]}",
+            "{'v':'a','p':false},{'v':'b','p':true}");
         makes(THREE, "=:{'mail':[{'v':'a'},{'v':'a'}]}", "{'v':'a'}");
     }
 }

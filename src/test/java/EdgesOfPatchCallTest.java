@@ -1,19 +1,21 @@
 /** The edges that promise 5 names: patch as a call. */
 public final class EdgesOfPatchCallTest {
     private static final Checks CHECKS = new Checks("EdgesOfPatchCallTest");
-    private static final String ANN_IS = "{'id':1,'version':2,'name':'Ann','age':5,'on':true,'mail':[{'v':'x'},{'v':'y','p':true}]}";
+    private static final String ANN_IS =
+        "{'id':1,'version':2,'name':'Ann','age':5,'on':true,'mail':[{'v':'x'},{'v':'y','p':true}]}";
     private static final String BOB_IS = "{'id':2,'version':1,'name':'Bob'}";
     private static final int FAR = Integer.MAX_VALUE;
     private static final int NEAR = Integer.MIN_VALUE;
     /** What may be done with Ann. */
-    private static final String[] FINE = {"=name:'c'", "=age:6", "-age", "-on", "-mail", "=mail:{'v':'q'}", "+mail:{'v':'q','p':true}",
-        "-mail[v eq 'x']", "=mail[v eq 'x'].v:'q'", "=mail.p:true", "-mail.p", "+mail[v pr]:{'p':false}", "=:{'age':6,'on':false}"};
+    private static final String[] FINE = {"=name:'c'", "=age:6", "-age", "-on", "-mail", "=mail:{'v':'q'}",
+        "+mail:{'v':'q','p':true}", "-mail[v eq 'x']", "=mail[v eq 'x'].v:'q'", "=mail.p:true", "-mail.p",
+        "+mail[v pr]:{'p':false}", "=:{'age':6,'on':false}"};
     /** What may not be done with Ann, nor with what the others above make of her. */
-    private static final String[] BAD = {"-id", "=version:1", "-name", "-mail.v", "+age:''", "=name:''", "+mail:5", "+:5", "+:{'zz':1}",
-        "=mail[v eq 'zz'].p:true", "+mail[v eq 'zz']:{}"};
+    private static final String[] BAD = {"-id", "=version:1", "-name", "-mail.v", "+age:''", "=name:''",
+        "+mail:5", "+:5", "+:{'zz':1}", "=mail[v eq 'zz'].p:true", "+mail[v eq 'zz']:{}"};
     private static final int[] ERRORS = {PeopleStore.MUTABILITY, PeopleStore.MUTABILITY, PeopleStore.MUTABILITY,
-        PeopleStore.MUTABILITY, PeopleStore.UNFIT, PeopleStore.UNFIT, PeopleStore.UNFIT, PeopleStore.UNFIT, PeopleStore.UNFIT,
-        PeopleStore.NOTARGET, PeopleStore.NOTARGET};
+        PeopleStore.MUTABILITY, PeopleStore.UNFIT, PeopleStore.UNFIT, PeopleStore.UNFIT, PeopleStore.UNFIT,
+        PeopleStore.UNFIT, PeopleStore.NOTARGET, PeopleStore.NOTARGET};
 
     public static void main(String[] args) {
         used();
@@ -66,7 +68,8 @@ public final class EdgesOfPatchCallTest {
     private static void oneAfterTheOther() {
         CHECKS.about("whose operations are done on the resource, one after the other");
         begin();
-        CHECKS.patches(Checks.quoted("=mail[v eq 'x'].v:'q'\n=mail[v eq 'q'].p:true\n-mail[p eq false]\n=age:6\n=age:7"), 3);
+        String five = "=mail[v eq 'x'].v:'q'\n=mail[v eq 'q'].p:true\n-mail[p eq false]\n=age:6\n=age:7";
+        CHECKS.patches(Checks.quoted(five), 3);
         CHECKS.is(1, 3, Checks.quoted("'name':'Ann','age':7,'on':true,'mail':[{'v':'q','p':true}]"));
         CHECKS.patches(Checks.quoted("-mail\n+mail:{'v':'w'}\n=mail.p:false\n-age\n+on:false"), 4);
         CHECKS.is(1, 4, Checks.quoted("'name':'Ann','on':false,'mail':[{'v':'w','p':false}]"));
@@ -149,15 +152,17 @@ public final class EdgesOfPatchCallTest {
             refused(bad + "\n=zz:1", PeopleStore.SYNTAX);
             refused("-zz\n" + bad, PeopleStore.SYNTAX);
         }
-        for (String text : new String[] {"", " ", "\n", "age", "{}", "{'age':6}", "name pr", "#", "=age:6 7", "=age:6;"}) {
+        for (String text : new String[] {"", " ", "\n", "age", "{}", "{'age':6}", "name pr", "#", "=age:6 7",
+                "=age:6;"}) {
             refused(text, PeopleStore.SYNTAX);
         }
     }
 
     private static void filtersToo() {
         CHECKS.about("SYNTAX (also when a filter in it is not as said)");
-        String[] filters = {"", "v", "v eq", "v eq 5", "p eq 'x'", "p co true", "p gt true", "name pr", "mail pr", "mail.v pr",
-            "mail[v pr]", "id eq 1", "v pr or", "((((((v pr))))))", "not v pr", "v eq []", "v eq {}", "v zz 'x'", "v pr)", "(v pr"};
+        String[] filters = {"", "v", "v eq", "v eq 5", "p eq 'x'", "p co true", "p gt true", "name pr",
+            "mail pr", "mail.v pr", "mail[v pr]", "id eq 1", "v pr or", "((((((v pr))))))", "not v pr",
+            "v eq []", "v eq {}", "v zz 'x'", "v pr)", "(v pr"};
         for (String filter : filters) {
             refused("-mail[" + filter + "]", PeopleStore.SYNTAX);
             refused("-id\n=mail[" + filter + "].p:true", PeopleStore.SYNTAX);

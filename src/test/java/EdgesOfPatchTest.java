@@ -105,7 +105,8 @@ public final class EdgesOfPatchTest {
         makes("+age:6", "'name':'Ann','age':6,'on':true," + MAIL);
         makes("=age:6", "'name':'Ann','age':6,'on':true," + MAIL);
         makes("-age", "'name':'Ann','on':true," + MAIL);
-        for (String each : new String[] {"", ":", ".", ",", "(", "[", "{", "*", "add ", "5", "'+'", "++", "--", "==", "+="}) {
+        for (String each : new String[] {"", ":", ".", ",", "(", "[", "{", "*", "add ", "5", "'+'", "++", "--",
+                "==", "+="}) {
             wrong(each + "age:6");
             wrong(each + "age");
         }
@@ -114,7 +115,8 @@ public final class EdgesOfPatchTest {
     private static void values() {
         CHECKS.about("and for + and = : and a value");
         for (String sign : new String[] {"+", "="}) {
-            for (String target : new String[] {"", "age", "id", "name", "mail", "mail.v", "mail[v pr]", "mail[v pr].p"}) {
+            for (String target : new String[] {"", "age", "id", "name", "mail", "mail.v", "mail[v pr]",
+                    "mail[v pr].p"}) {
                 wrong(sign + target);
                 wrong(sign + target + ":");
                 wrong(sign + target + " 5");
@@ -125,7 +127,8 @@ public final class EdgesOfPatchTest {
                 wrong(sign + target + ":x");
             }
         }
-        for (String target : new String[] {"age", "id", "name", "mail", "mail.v", "mail[v pr]", "mail[v pr].p"}) {
+        for (String target : new String[] {"age", "id", "name", "mail", "mail.v", "mail[v pr]",
+                "mail[v pr].p"}) {
             wrong("-" + target + ":5");
             wrong("-" + target + ":");
             wrong("-" + target + " 5");
@@ -154,11 +157,12 @@ public final class EdgesOfPatchTest {
         makes("-mail[v pr].p", "'name':'Ann','age':5,'on':true,'mail':[{'v':'x'},{'v':'y'}]");
         makes("-mail[v pr]", "'name':'Ann','age':5,'on':true");
         makes("-mail", "'name':'Ann','age':5,'on':true");
-        for (String each : new String[] {"v", "p", "zz", "nam", "names", "'age'", "true", "5", "mail.", "mail.zz", "mail.id",
-                "mail.mail", "mail.v.p", "mail..v", "name.v", "age.p", "id.v", "age[v pr]", "v[v pr]", "mail[]", "mail[",
-                "mail]", "mail[v]", "mail[v pr", "mail[v pr)", "mail(v pr)", "mail[v pr].", "mail[v pr].id", "mail[v pr]v",
-                "mail[v pr][v pr]", "mail.v[v pr]", "mail[v pr].v.p", "mail[name pr]", "mail[mail pr]", "(age)", "mail v",
-                "mail[v pr or]", "mail[v eq 5]", "mail[p gt true]", "mail[p eq 'true']", "age,on", "age on"}) {
+        for (String each : new String[] {"v", "p", "zz", "nam", "names", "'age'", "true", "5", "mail.",
+                "mail.zz", "mail.id", "mail.mail", "mail.v.p", "mail..v", "name.v", "age.p", "id.v",
+                "age[v pr]", "v[v pr]", "mail[]", "mail[", "mail]", "mail[v]", "mail[v pr", "mail[v pr)",
+                "mail(v pr)", "mail[v pr].", "mail[v pr].id", "mail[v pr]v", "mail[v pr][v pr]", "mail.v[v pr]",
+                "mail[v pr].v.p", "mail[name pr]", "mail[mail pr]", "(age)", "mail v", "mail[v pr or]",
+                "mail[v eq 5]", "mail[p gt true]", "mail[p eq 'true']", "age,on", "age on"}) {
             wrong("-" + each);
             wrong("=" + each + ":true");
         }
@@ -211,7 +215,8 @@ public final class EdgesOfPatchTest {
                 makes(sign + "name:'" + name + "'", "'name':'" + name + "','age':5,'on':true," + MAIL);
             }
             refused(sign + "name:'" + TWELVE + "m'", PeopleStore.UNFIT);
-            makes(sign + "name:'" + "\\'".repeat(12) + "'", "'name':'" + "\\'".repeat(12) + "','age':5,'on':true," + MAIL);
+            makes(sign + "name:'" + "\\'".repeat(12) + "'",
+                "'name':'" + "\\'".repeat(12) + "','age':5,'on':true," + MAIL);
             refused(sign + "name:'" + "\\'".repeat(13) + "'", PeopleStore.UNFIT);
         }
     }
@@ -237,7 +242,8 @@ public final class EdgesOfPatchTest {
 
     private static void nothingNeedsAnObject() {
         CHECKS.about("Nothing: the value must be an object (UNFIT)");
-        for (String value : new String[] {"5", "0", "true", "false", "'a'", "''", "[]", "[{}]", "[{'age':6}]"}) {
+        for (String value : new String[] {"5", "0", "true", "false", "'a'", "''", "[]", "[{}]",
+                "[{'age':6}]"}) {
             refused("+:" + value, PeopleStore.UNFIT);
             refused("=:" + value, PeopleStore.UNFIT);
         }
@@ -292,6 +298,7 @@ public final class EdgesOfPatchTest {
         refused("+:{'mail':5}", PeopleStore.UNFIT);
         refused("+:{'mail':{'p':true}}", PeopleStore.UNFIT);
         refused("+:{'mail':[{'v':'a'},{'v':'b'},{'v':'c'}]}", PeopleStore.FULL);
-        makes("+:{'mail':[{'v':'a'},{'v':'b'}]}", other + "'mail':[{'v':'x'},{'v':'y','p':true},{'v':'a'},{'v':'b'}]");
+        makes("+:{'mail':[{'v':'a'},{'v':'b'}]}",
+            other + "'mail':[{'v':'x'},{'v':'y','p':true},{'v':'a'},{'v':'b'}]");
     }
 }

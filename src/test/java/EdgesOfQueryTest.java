@@ -54,7 +54,8 @@ public final class EdgesOfQueryTest {
     }
 
     private static void slice(int start, int count, int matches, String want) {
-        CHECKS.due("query(0, false, " + start + ", " + count + ")", CHECKS.store().query(0, false, start, count), matches);
+        CHECKS.due("query(0, false, " + start + ", " + count + ")",
+            CHECKS.store().query(0, false, start, count), matches);
         CHECKS.due("the page from " + start + ", " + count, CHECKS.page(), want);
     }
 
@@ -114,26 +115,29 @@ public final class EdgesOfQueryTest {
 
     private static void byName() {
         CHECKS.about("1 name (as if capital letters were small, as in filters)");
-        begin("{'name':'b'}", "{'name':'A'}", "{'name':'C'}", "{'name':'_'}", "{'name':'aa'}", "{'name':'['}", "{'name':'Z'}",
-            "{'name':'{'}");
+        begin("{'name':'b'}", "{'name':'A'}", "{'name':'C'}", "{'name':'_'}", "{'name':'aa'}", "{'name':'['}",
+            "{'name':'Z'}", "{'name':'{'}");
         up(1, "6 4 2 5 1 3 7 8");
         down(1, "8 7 3 1 5 2 4 6");
-        begin("{'name':'ab'}", "{'name':'abc'}", "{'name':'a'}", "{'name':'AB '}", "{'name':'aBB'}", "{'name':'9'}", "{'name':'10'}");
+        begin("{'name':'ab'}", "{'name':'abc'}", "{'name':'a'}", "{'name':'AB '}", "{'name':'aBB'}",
+            "{'name':'9'}", "{'name':'10'}");
         up(1, "7 6 3 1 4 5 2");
         down(1, "2 5 4 1 3 6 7");
     }
 
     private static void byAge() {
         CHECKS.about("2 age");
-        begin("{'name':'a','age':0}", "{'name':'b','age':-1}", "{'name':'c','age':1}", "{'name':'d','age':999999999}",
-            "{'name':'e','age':-999999999}", "{'name':'f','age':10}", "{'name':'g','age':9}");
+        begin("{'name':'a','age':0}", "{'name':'b','age':-1}", "{'name':'c','age':1}",
+            "{'name':'d','age':999999999}", "{'name':'e','age':-999999999}", "{'name':'f','age':10}",
+            "{'name':'g','age':9}");
         up(2, "5 2 1 3 7 6 4");
         down(2, "4 6 7 3 1 2 5");
     }
 
     private static void byOn() {
         CHECKS.about("3 on (false first)");
-        begin("{'name':'a','on':true}", "{'name':'b','on':false}", "{'name':'c','on':true}", "{'name':'d','on':false}");
+        begin("{'name':'a','on':true}", "{'name':'b','on':false}", "{'name':'c','on':true}",
+            "{'name':'d','on':false}");
         up(3, "2 4 1 3");
         down(3, "1 3 2 4");
     }
@@ -141,8 +145,9 @@ public final class EdgesOfQueryTest {
     private static void byMail() {
         CHECKS.about("4 mail: the v of the item with p true, else of the first one");
         begin("{'name':'a','mail':[{'v':'m'}]}", "{'name':'b','mail':[{'v':'a'},{'v':'z','p':true}]}",
-            "{'name':'c','mail':[{'v':'n','p':false},{'v':'a','p':false},{'v':'b'}]}", "{'name':'d','mail':[{'v':'M','p':true},{'v':'z'}]}",
-            "{'name':'e','mail':[{'v':'ma'},{'v':'a'}]}", "{'name':'f','mail':[{'v':'z'},{'v':'y'},{'v':'x'},{'v':'b','p':true}]}");
+            "{'name':'c','mail':[{'v':'n','p':false},{'v':'a','p':false},{'v':'b'}]}",
+            "{'name':'d','mail':[{'v':'M','p':true},{'v':'z'}]}", "{'name':'e','mail':[{'v':'ma'},{'v':'a'}]}",
+            "{'name':'f','mail':[{'v':'z'},{'v':'y'},{'v':'x'},{'v':'b','p':true}]}");
         up(4, "4 6 1 5 3 2");
         down(4, "2 3 5 1 6 4");
     }
@@ -164,7 +169,8 @@ public final class EdgesOfQueryTest {
 
     private static void alike() {
         CHECKS.about("those alike by id, up, in any case");
-        begin("{'name':'a','age':7,'on':true,'mail':[{'v':'x'}]}", "{'name':'b','age':1,'on':false,'mail':[{'v':'a'}]}",
+        begin("{'name':'a','age':7,'on':true,'mail':[{'v':'x'}]}",
+            "{'name':'b','age':1,'on':false,'mail':[{'v':'a'}]}",
             "{'name':'c','age':7,'on':true,'mail':[{'v':'y'},{'v':'x','p':true}]}",
             "{'name':'d','age':7,'on':true,'mail':[{'v':'x','p':false}]}");
         for (int sort = 2; sort <= 4; sort++) {
@@ -265,7 +271,8 @@ public final class EdgesOfQueryTest {
         for (String text : new String[] {"name", "name eq 5", "\n", "(id pr", "id pr id pr", "#"}) {
             for (int sort : new int[] {-1, 5, 0}) {
                 CHECKS.say(text);
-                CHECKS.due("query of " + text + " by " + sort, CHECKS.store().query(sort, false, 1, 9), PeopleStore.SYNTAX);
+                CHECKS.due("query of " + text + " by " + sort, CHECKS.store().query(sort, false, 1, 9),
+                    PeopleStore.SYNTAX);
             }
         }
     }

@@ -90,8 +90,9 @@ public final class EdgesOfReadingTest {
 
     private static void whatThereIsNot() {
         CHECKS.about("what there is not left out");
-        String[] rests = {"'name':'a'", "'name':'a','age':5", "'name':'a','on':true", "'name':'a','mail':[{'v':'x'}]",
-            "'name':'a','age':5,'on':true", "'name':'a','age':5,'mail':[{'v':'x'}]", "'name':'a','on':false,'mail':[{'v':'x'}]",
+        String[] rests = {"'name':'a'", "'name':'a','age':5", "'name':'a','on':true",
+            "'name':'a','mail':[{'v':'x'}]", "'name':'a','age':5,'on':true",
+            "'name':'a','age':5,'mail':[{'v':'x'}]", "'name':'a','on':false,'mail':[{'v':'x'}]",
             "'name':'a','age':0,'on':false,'mail':[{'v':'x','p':false}]"};
         for (String rest : rests) {
             written("{" + rest + "}", rest);
@@ -134,7 +135,8 @@ public final class EdgesOfReadingTest {
 
     private static void numbers() {
         CHECKS.about("how many characters it has (numbers of any size)");
-        for (String each : new String[] {"0", "9", "10", "99", "100", "-1", "-10", "99999999", "100000000", "999999999", "-999999999"}) {
+        for (String each : new String[] {"0", "9", "10", "99", "100", "-1", "-10", "99999999", "100000000",
+                "999999999", "-999999999"}) {
             written("{'name':'a','age':" + each + "}", "'name':'a','age':" + each);
         }
         written("{'name':'a','age':-0}", "'name':'a','age':0");
@@ -199,7 +201,8 @@ public final class EdgesOfReadingTest {
             CHECKS.patches(Checks.quoted("+mail:" + item), i + 2);
             items.append(i == 0 ? "" : ",").append(item);
         }
-        CHECKS.stands("", "{'id':1,'version':5,'name':'" + "\\'".repeat(12) + "','age':-999999999,'on':false,'mail':[" + items + "]}");
+        CHECKS.stands("", "{'id':1,'version':5,'name':'" + "\\'".repeat(12)
+            + "','age':-999999999,'on':false,'mail':[" + items + "]}");
     }
 
     private static void readingChangesNothing() {

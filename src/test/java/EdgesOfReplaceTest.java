@@ -2,7 +2,8 @@
 public final class EdgesOfReplaceTest {
     private static final Checks CHECKS = new Checks("EdgesOfReplaceTest");
     private static final String ANN = "{'name':'Ann','age':5,'on':true,'mail':[{'v':'x','p':true}]}";
-    private static final String ANN_IS = "{'id':1,'version':2,'name':'Ann','age':5,'on':true,'mail':[{'v':'x','p':true}]}";
+    private static final String ANN_IS =
+        "{'id':1,'version':2,'name':'Ann','age':5,'on':true,'mail':[{'v':'x','p':true}]}";
     private static final String BOB_IS = "{'id':2,'version':1,'name':'Bob'}";
     private static final int FAR = Integer.MAX_VALUE;
     private static final int NEAR = Integer.MIN_VALUE;
@@ -104,8 +105,8 @@ public final class EdgesOfReplaceTest {
 
     private static void syntax() {
         CHECKS.about("replace: SYNTAX");
-        for (String text : new String[] {"", " ", "5", "[]", "'a'", "true", "{'name':'c'", "{'name':'c'} x", "{'name':'c','name':'c'}",
-                "\n{'name':'c'}", "[{'name':'c'}]", "=name:'c'"}) {
+        for (String text : new String[] {"", " ", "5", "[]", "'a'", "true", "{'name':'c'", "{'name':'c'} x",
+                "{'name':'c','name':'c'}", "\n{'name':'c'}", "[{'name':'c'}]", "=name:'c'"}) {
             refused(1, 0, text, PeopleStore.SYNTAX);
             refused(1, 2, text, PeopleStore.SYNTAX);
         }
@@ -113,8 +114,9 @@ public final class EdgesOfReplaceTest {
 
     private static void unfit() {
         CHECKS.about("replace: UNFIT");
-        for (String text : new String[] {"{}", "{'age':5}", "{'name':''}", "{'name':'abcdefghijklm'}", "{'name':'c','zz':1}",
-                "{'name':'c','mail':[{'v':'y'},{'v':'y'}]}", "{'name':'c','on':0}", "{'name':'c','mail':{'v':'x'}}"}) {
+        for (String text : new String[] {"{}", "{'age':5}", "{'name':''}", "{'name':'abcdefghijklm'}",
+                "{'name':'c','zz':1}", "{'name':'c','mail':[{'v':'y'},{'v':'y'}]}", "{'name':'c','on':0}",
+                "{'name':'c','mail':{'v':'x'}}"}) {
             refused(1, 0, text, PeopleStore.UNFIT);
             refused(1, 2, text, PeopleStore.UNFIT);
         }

@@ -48,7 +48,8 @@ public final class EdgesOfResourceTest {
 
     private static void readOnlyOnes() {
         CHECKS.about("those named id and version are passed over, whatever their value");
-        String[] values = {"0", "1", "7", "-1", "999999999", "'x'", "''", "'longer than twelve'", "true", "[]", "{}", "[[]]"};
+        String[] values = {"0", "1", "7", "-1", "999999999", "'x'", "''", "'longer than twelve'", "true", "[]",
+            "{}", "[[]]"};
         for (String each : values) {
             made("{'id':" + each + ",'name':'a'}", "'name':'a'");
             made("{'name':'a','version':" + each + "}", "'name':'a'");
@@ -59,8 +60,8 @@ public final class EdgesOfResourceTest {
 
     private static void namesOfAttributes() {
         CHECKS.about("each member's name is that of an attribute");
-        for (String each : new String[] {"", " ", "nam", "names", "name ", " name", "nam e", "ag", "ages", "o", "onn",
-                "mai", "mails", "i", "ids", "versio", "versions", "v", "p", "mail.v", "mail.p", "zz"}) {
+        for (String each : new String[] {"", " ", "nam", "names", "name ", " name", "nam e", "ag", "ages", "o",
+                "onn", "mai", "mails", "i", "ids", "versio", "versions", "v", "p", "mail.v", "mail.p", "zz"}) {
             unfit("{'name':'a','" + each + "':1}");
             unfit("{'" + each + "':'x','name':'a'}");
         }
@@ -119,8 +120,8 @@ public final class EdgesOfResourceTest {
         for (String[] each : alike) {
             twoNames(each[0], each[1], true);
         }
-        String[][] others = {{"a", "aa"}, {"aa", "A"}, {"[", "{"}, {"@", "`"}, {"]", "}"}, {"^", "~"}, {"a", "a "},
-            {"a", " a"}, {"ab", "ac"}, {"ab", "bb"}, {"0", "P"}, {"_", "?"}};
+        String[][] others = {{"a", "aa"}, {"aa", "A"}, {"[", "{"}, {"@", "`"}, {"]", "}"}, {"^", "~"},
+            {"a", "a "}, {"a", " a"}, {"ab", "ac"}, {"ab", "bb"}, {"0", "P"}, {"_", "?"}};
         for (String[] each : others) {
             twoNames(each[0], each[1], false);
         }

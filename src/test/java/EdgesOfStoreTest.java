@@ -21,6 +21,7 @@ public final class EdgesOfStoreTest {
         eight();
         orderOfErrors();
         refusedCreates();
+        allCallsOfAnObject();
         CHECKS.end();
     }
 
@@ -137,7 +138,8 @@ public final class EdgesOfStoreTest {
 
     private static void usedByCreate() {
         CHECKS.about("create: Uses the buffer (it is empty afterwards, always)");
-        for (String text : new String[] {"", "{", "5", "{}", "{'name':''}", "{'name':'A'}", "{'name':'b'}", "\n", "#"}) {
+        for (String text : new String[] {"", "{", "5", "{}", "{'name':''}", "{'name':'A'}", "{'name':'b'}",
+                "\n", "#"}) {
             CHECKS.anew("{\"name\":\"a\"}");
             CHECKS.say(Checks.quoted(text));
             CHECKS.store().create();
@@ -152,8 +154,9 @@ public final class EdgesOfStoreTest {
 
     private static void onlyAnObject() {
         CHECKS.about("its text must be a value that is an object");
-        for (String text : new String[] {"", " ", "5", "true", "'a'", "[]", "[{'name':'a'}]", "{'name':'a'} {}", "{'name':'a'},",
-                "{'name':'a'}}", "{{'name':'a'}}", "({'name':'a'})", "name", "'name':'a'", "+:{'name':'a'}"}) {
+        for (String text : new String[] {"", " ", "5", "true", "'a'", "[]", "[{'name':'a'}]", "{'name':'a'} {}",
+                "{'name':'a'},", "{'name':'a'}}", "{{'name':'a'}}", "({'name':'a'})", "name", "'name':'a'",
+                "+:{'name':'a'}"}) {
             CHECKS.anew();
             CHECKS.creates(Checks.quoted(text), PeopleStore.SYNTAX);
             CHECKS.stands("");
@@ -259,5 +262,18 @@ public final class EdgesOfStoreTest {
             all[i - 1] = "{'id':" + i + ",'version':1,'name':'n" + i + "'}";
         }
         CHECKS.stands("", all);
+    }
+
+    private static void allCallsOfAnObject() {
+        CHECKS.about("An object is used for at most 512 calls after it has been made");
+        CHECKS.anew("{\"name\":\"a\"}");
+        for (int i = 1; i <= 101; i++) {
+            CHECKS.patches("+on:true", 2 * i);
+            CHECKS.patches("-on", 2 * i + 1);
+        }
+        CHECKS.due("the 510th call", CHECKS.store().resources(), 1);
+        CHECKS.due("the 511th call", CHECKS.store().length(1), "{'id':1,'version':203,'name':'a'}".length());
+        CHECKS.due("the 512th call", CHECKS.store().version(1), 203);
+        CHECKS.due("calls", CHECKS.calls(), 512);
     }
 }

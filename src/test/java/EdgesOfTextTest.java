@@ -245,8 +245,8 @@ public final class EdgesOfTextTest {
                 "'x'", "}", "]", "}", ""), "'name':'a','mail':[{'v':'x'}]");
             CHECKS.queries(Checks.quoted(String.join(s, "", "mail", "[", "(", "v", " ", "eq", " ", "'x'", ")",
                 "]", "and", " ", "mail", ".", "v", " ", "pr", "")), 1);
-            CHECKS.patches(Checks.quoted(String.join(s, "", "=", "mail", "[", "v", " ", "pr", "]", ".", "v", ":",
-                "'y'", "\n", "-", "mail", ".", "p", "\n", "+", ":", "{", "}", "")), 2);
+            CHECKS.patches(Checks.quoted(String.join(s, "", "=", "mail", "[", "v", " ", "pr", "]", ".", "v",
+                ":", "'y'", "\n", "-", "mail", ".", "p", "\n", "+", ":", "{", "}", "")), 2);
         }
         right(" ".repeat(54) + "{'name':'a'}" + " ".repeat(54), "'name':'a'");
         CHECKS.patches(" ".repeat(38) + "-" + " ".repeat(38) + "age" + " ".repeat(40), 1);
@@ -258,7 +258,8 @@ public final class EdgesOfTextTest {
         right("{'NAME':'a','AGE':5,'ON':TRUE,'MAIL':[{'V':'x','P':FALSE}],'ID':1,'VERSION':1}",
             "'name':'a','age':5,'on':true,'mail':[{'v':'x','p':false}]");
         CHECKS.queries(Checks.quoted("NAME EQ 'a' AND AGE NE 6 AND ID GT 0 AND VERSION GE 1 OR ON PR"), 1);
-        CHECKS.queries(Checks.quoted("NAME CO 'a' AND NAME SW 'a' AND NAME EW 'a' AND AGE LT 6 AND AGE LE 5"), 1);
+        CHECKS.queries(Checks.quoted("NAME CO 'a' AND NAME SW 'a' AND NAME EW 'a' AND AGE LT 6 AND AGE LE 5"),
+            1);
         CHECKS.queries(Checks.quoted("MAIL[V PR AND NOT(P EQ TRUE)] AND MAIL.V EQ 'x' AND MAIL.P EQ FALSE"), 1);
         CHECKS.patches(Checks.quoted("-AGE\n-ON\n=MAIL[V EQ 'x'].P:TRUE\n=MAIL.V:'y'\n+:{'AGE':1}"), 2);
         CHECKS.is(1, 2, Checks.quoted("'name':'a','age':1,'mail':[{'v':'y','p':true}]"));
@@ -282,22 +283,25 @@ public final class EdgesOfTextTest {
 
     private static void wordsAsValues() {
         CHECKS.about("A VALUE: the word true or false, a number, a string, an OBJECT, an ARRAY");
-        for (String text : new String[] {"true", "false", "True", "FALSE", "0", "-1", "''", "'a'", "{}", "[]"}) {
+        for (String text : new String[] {"true", "false", "True", "FALSE", "0", "-1", "''", "'a'", "{}",
+                "[]"}) {
             isValue(text, true);
         }
-        for (String text : new String[] {"", "null", "t", "tru", "trues", "yes", "a", "(1)", "()", ":", ".", "=", ","}) {
+        for (String text : new String[] {"", "null", "t", "tru", "trues", "yes", "a", "(1)", "()", ":", ".",
+                "=", ","}) {
             isValue(text, false);
         }
     }
 
     private static void members() {
         CHECKS.about("{ , nothing or MEMBERS with , between them, } , each a string, : , a value");
-        for (String text : new String[] {"{}", "{ }", "{'a':1}", "{'a':1,'b':2}", "{'':1}", "{'a':1,'b':2,'c':3}"}) {
+        for (String text : new String[] {"{}", "{ }", "{'a':1}", "{'a':1,'b':2}", "{'':1}",
+                "{'a':1,'b':2,'c':3}"}) {
             isValue(text, true);
         }
-        for (String text : new String[] {"{", "}", "{,}", "{'a':1,}", "{,'a':1}", "{'a':1,,'b':2}", "{'a':1 'b':2}",
-                "{'a'}", "{'a':}", "{'a' 1}", "{:1}", "{a:1}", "{1:1}", "{true:1}", "{'a':1]", "{'a'::1}", "{1}",
-                "{'a'.1}", "{'a':1.'b':2}", "{'a':1", "{{}:1}", "{'a':1}}"}) {
+        for (String text : new String[] {"{", "}", "{,}", "{'a':1,}", "{,'a':1}", "{'a':1,,'b':2}",
+                "{'a':1 'b':2}", "{'a'}", "{'a':}", "{'a' 1}", "{:1}", "{a:1}", "{1:1}", "{true:1}", "{'a':1]",
+                "{'a'::1}", "{1}", "{'a'.1}", "{'a':1.'b':2}", "{'a':1", "{{}:1}", "{'a':1}}"}) {
             isValue(text, false);
         }
     }
@@ -307,8 +311,8 @@ public final class EdgesOfTextTest {
         for (String text : new String[] {"[]", "[ ]", "[1]", "[1,2]", "[1,'a',true,{},[]]", "[[],[]]"}) {
             isValue(text, true);
         }
-        for (String text : new String[] {"[", "]", "[,]", "[1,]", "[,1]", "[1,,2]", "[1 2]", "[1}", "[a]", "[1:2]",
-                "['a':1]", "[1", "[1]]", "[1.2]"}) {
+        for (String text : new String[] {"[", "]", "[,]", "[1,]", "[,1]", "[1,,2]", "[1 2]", "[1}", "[a]",
+                "[1:2]", "['a':1]", "[1", "[1]]", "[1.2]"}) {
             isValue(text, false);
         }
     }

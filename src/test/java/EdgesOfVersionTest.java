@@ -76,9 +76,10 @@ public final class EdgesOfVersionTest {
 
     private static void patchesThatChange() {
         CHECKS.about("grows by 1 when a patch makes the resource another one than it was");
-        for (String patch : new String[] {"=name:'Anna'", "=age:6", "=age:0", "-age", "=on:false", "-on", "-mail",
-                "-mail[v eq 'x']", "-mail[v eq 'z']", "+mail:{'v':'w'}", "=mail[v eq 'x'].v:'X'", "=mail[v eq 'x'].p:false",
-                "=mail[v eq 'y'].p:false", "-mail[v eq 'y'].p", "-mail[v eq 'z'].p", "=mail[v eq 'z'].p:true", "=:{'age':6}"}) {
+        for (String patch : new String[] {"=name:'Anna'", "=age:6", "=age:0", "-age", "=on:false", "-on",
+                "-mail", "-mail[v eq 'x']", "-mail[v eq 'z']", "+mail:{'v':'w'}", "=mail[v eq 'x'].v:'X'",
+                "=mail[v eq 'x'].p:false", "=mail[v eq 'y'].p:false", "-mail[v eq 'y'].p", "-mail[v eq 'z'].p",
+                "=mail[v eq 'z'].p:true", "=:{'age':6}"}) {
             begin();
             patches(patch, 2);
         }
@@ -88,11 +89,13 @@ public final class EdgesOfVersionTest {
         CHECKS.about("another one than it was: the same leaves the version");
         begin();
         replaces(ALL, 1);
-        replaces("{'mail':[{'v':'x'},{'p':true,'v':'y'},{'v':'z','p':false}],'on':TRUE,'age':5,'name':'Ann'}", 1);
-        replaces("{'id':9,'version':9,'name':'Ann','age':5,'on':true,'mail':[{'v':'x'},{'v':'y','p':true},{'v':'z','p':false}]}", 1);
+        replaces("{'mail':[{'v':'x'},{'p':true,'v':'y'},{'v':'z','p':false}],'on':TRUE,'age':5,'name':'Ann'}",
+            1);
+        replaces("{'id':9,'version':9," + ALL.substring(1), 1);
         for (String patch : new String[] {"=name:'Ann'", "+age:5", "=on:true", "+mail:[]", "+mail:{'v':'x'}",
-                "+mail:{'v':'y','p':true}", "=mail[v eq 'y'].p:true", "=mail[v eq 'x'].v:'x'", "+mail[v pr]:{}", "+:{}",
-                "=:{'id':9}", "-mail[v eq 'q']", "-mail[v eq 'x'].p", "=mail[v eq 'y']:{'v':'y','p':true}"}) {
+                "+mail:{'v':'y','p':true}", "=mail[v eq 'y'].p:true", "=mail[v eq 'x'].v:'x'", "+mail[v pr]:{}",
+                "+:{}", "=:{'id':9}", "-mail[v eq 'q']", "-mail[v eq 'x'].p",
+                "=mail[v eq 'y']:{'v':'y','p':true}"}) {
             patches(patch, 1);
         }
     }
@@ -112,8 +115,10 @@ public final class EdgesOfVersionTest {
     private static void otherOrder() {
         CHECKS.about("(items in another order are another");
         begin();
-        replaces("{'name':'Ann','age':5,'on':true,'mail':[{'v':'y','p':true},{'v':'x'},{'v':'z','p':false}]}", 2);
-        replaces("{'name':'Ann','age':5,'on':true,'mail':[{'v':'y','p':true},{'v':'z','p':false},{'v':'x'}]}", 3);
+        replaces("{'name':'Ann','age':5,'on':true,'mail':[{'v':'y','p':true},{'v':'x'},{'v':'z','p':false}]}",
+            2);
+        replaces("{'name':'Ann','age':5,'on':true,'mail':[{'v':'y','p':true},{'v':'z','p':false},{'v':'x'}]}",
+            3);
         patches("-mail[v eq 'y']\n+mail:{'v':'y','p':true}", 4);
         patches("=mail:[{'v':'z','p':false},{'v':'x'},{'v':'y','p':true}]", 4);
         patches("=mail:[{'v':'x'},{'v':'z','p':false},{'v':'y','p':true}]", 5);
