@@ -105,6 +105,12 @@ public final class EdgesOfTextTest {
         query("truename pr", PeopleStore.SYNTAX);
         isValue("true", true);
         isValue("truefalse", false);
+        isValue("drue", false);
+        isValue("trud", false);
+        isValue("talse", false);
+        query("name pr ar name pr", PeopleStore.SYNTAX);
+        query("name pr ond name pr", PeopleStore.SYNTAX);
+        query("bot(name pr)", PeopleStore.SYNTAX);
         isValue("true false", false);
     }
 
@@ -230,6 +236,7 @@ public final class EdgesOfTextTest {
             if (!standsInStrings) {
                 wrong("{'name':'a'}" + c);
                 wrong(c + "{'name':'a'}");
+                isValue("" + c, c >= '0' && c <= '9');
                 query("name pr " + c, PeopleStore.SYNTAX);
                 CHECKS.anew("{\"name\":\"a\"}");
                 CHECKS.patches("-age" + c, PeopleStore.SYNTAX);
