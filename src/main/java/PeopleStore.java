@@ -211,7 +211,7 @@ public final class PeopleStore {
         for (int i = 0; i < people.size(); i++) {
             Person each = people.get(i);
             boolean another = each.id.number != wanting.id.number;
-            if (another && each.foldedName.compare(wanting.foldedName) == 0) {
+            if (another && Value.same(each.foldedName, wanting.foldedName)) {
                 return true;
             }
         }
@@ -1162,7 +1162,7 @@ public final class PeopleStore {
         boolean hasTwins() {
             for (int i = 0; i < items.size(); i++) {
                 for (int j = 0; j < i; j++) {
-                    if (items.get(i).v.compare(items.get(j).v) == 0) {
+                    if (Value.same(items.get(i).v, items.get(j).v)) {
                         return true;
                     }
                 }
